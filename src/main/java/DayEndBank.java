@@ -188,7 +188,7 @@ public final class DayEndBank {
         if (!isWithin(date, 0, LAST_REST_DATE) || restDays.isRest(date)) {
             return BAD;
         }
-        if (Calendar.monthNumber(date) <= Calendar.monthNumber(bookDate)) {
+        if (!isInLaterMonth(date)) {
             return BAD;
         }
         if (restDays.isFull()) {
@@ -356,6 +356,11 @@ public final class DayEndBank {
         return number == CASH || accountOf(number) != null;
     }
 
+    private boolean isInLaterMonth(int date) {
+        int month = Calendar.monthIn(Calendar.monthAndDay(date));
+        return month > Calendar.monthIn(Calendar.monthAndDay(bookDate));
+    }
+
     /** Moves money between two accounts; null stands for cash. */
     private void transfer(Account payer, Account payee, int amount) {
         if (payer != null) {
@@ -418,16 +423,13 @@ public final class DayEndBank {
         long left = account.spendable();
         for (int i = 0; i < ordersMade; i++) {
             Order order = orders[i];
-            order.isDue = order.payer == account && isDueNow(order.day);
+            order.isDue = order.payer == account
+                    && restDays.dueDate(order.day, bookDate) == bookDate;
             order.isPaid = order.isDue && order.amount <= left;
             if (order.isPaid) {
                 left -= order.amount;
             }
         }
-    }
-
-    private boolean isDueNow(int day) {
-        return restDays.dueDate(day, bookDate) == bookDate;
     }
 
     private boolean writeStep(Account account) {
@@ -627,8 +629,9 @@ public final class DayEndBank {
 
         /** The date at which an order of this day is due in the month of a date. */
         int dueDate(int day, int date) {
-            int length = Calendar.monthLength(date);
-            int dateBeforeFirst = date - Calendar.dayOfMonth(date);
+            int monthAndDay = Calendar.monthAndDay(date);
+            int length = Calendar.lengthOfMonth(monthAndDay);
+            int dateBeforeFirst = date - Calendar.dayIn(monthAndDay);
             int wanted = Math.min(day, length);
             for (int i = wanted; i <= length; i++) {
                 if (!isRest(dateBeforeFirst + i)) {
@@ -652,6 +655,8 @@ public final class DayEndBank {
         private static final int BASIS_OF_MONTHS = 2;
         private static final int FIRST_OF_MARCH_2000 = 60;
         private static final int DAYS_OF_400_YEARS = 146097;
+        private static final int MARCH = 2;
+        private static final int BITS_OF_DAY = 5;
 
         static boolean isBasis(int basis) {
             return 0 <= basis && basis < BASES;
@@ -666,24 +671,26 @@ public final class DayEndBank {
         }
 
         private static int countByMonths(int from, int to) {
-            int months = monthNumber(to) - monthNumber(from);
-            int firstDay = Math.min(dayOfMonth(from), 30);
-            int lastDay = dayOfMonth(to);
+            int first = monthAndDay(from);
+            int last = monthAndDay(to);
+            int firstDay = Math.min(dayIn(first), 30);
+            int lastDay = dayIn(last);
             if (firstDay == 30 && lastDay == 31) {
                 lastDay = 30;
             }
-            return 30 * months + lastDay - firstDay;
+            return 30 * (monthIn(last) - monthIn(first)) + lastDay - firstDay;
         }
 
         static boolean isLastOfMonth(int date) {
-            return dayOfMonth(date) == monthLength(date);
+            int monthAndDay = monthAndDay(date);
+            return dayIn(monthAndDay) == lengthOfMonth(monthAndDay);
         }
 
-        static int monthLength(int date) {
-            int months = monthNumber(date);
-            switch (Math.floorMod(months, 12)) {
+        static int lengthOfMonth(int monthAndDay) {
+            int month = monthIn(monthAndDay);
+            switch (Math.floorMod(month, 12)) {
                 case 1:
-                    return isLeap(Math.floorDiv(months, 12)) ? 29 : 28;
+                    return isLeap(Math.floorDiv(month, 12)) ? 29 : 28;
                 case 3:
                 case 5:
                 case 8:
@@ -699,44 +706,32 @@ public final class DayEndBank {
             return year % 4 == 0 && (year % 100 != 0 || year % 400 == 0);
         }
 
-        /** How many months lie between January 2000 and the month of a date. */
-        static int monthNumber(int date) {
-            int cycle = Math.floorDiv(date - FIRST_OF_MARCH_2000, DAYS_OF_400_YEARS);
-            int year = marchYear(dayOfCycle(date));
-            return 2 + 4800 * cycle + 12 * year + marchMonth(dayOfMarchYear(date));
+        /** The month, counted from January 2000 as 0. */
+        static int monthIn(int monthAndDay) {
+            return monthAndDay >> BITS_OF_DAY;
         }
 
-        static int dayOfMonth(int date) {
-            int day = dayOfMarchYear(date);
-            return day - firstDayOfMarchMonth(marchMonth(day)) + 1;
+        static int dayIn(int monthAndDay) {
+            return monthAndDay & ((1 << BITS_OF_DAY) - 1);
         }
 
-        // Below, years begin in March: the leap day is then the last of its year, and the
-        // months before it begin on the same day of every year.
-
-        private static int dayOfCycle(int date) {
-            return Math.floorMod(date - FIRST_OF_MARCH_2000, DAYS_OF_400_YEARS);
-        }
-
-        /** The leap days that lie before a day of the cycle are taken out of it, then 365 divides. */
-        private static int marchYear(int dayOfCycle) {
+        /**
+         * The month of a date and its day in it, in one number, so that no object is made for them.
+         *
+         * Years begin in March in here: the leap day is then the last of its year, and the months
+         * begin on the same days of every year, every five of them having 153 days.
+         */
+        static int monthAndDay(int date) {
+            int sinceMarch = date - FIRST_OF_MARCH_2000;
+            int cycle = Math.floorDiv(sinceMarch, DAYS_OF_400_YEARS);
+            int dayOfCycle = Math.floorMod(sinceMarch, DAYS_OF_400_YEARS);
             int leapDays = dayOfCycle / 1460 - dayOfCycle / 36524 + dayOfCycle / 146096;
-            return (dayOfCycle - leapDays) / 365;
-        }
-
-        private static int dayOfMarchYear(int date) {
-            int day = dayOfCycle(date);
-            int year = marchYear(day);
-            return day - (365 * year + year / 4 - year / 100);
-        }
-
-        /** From March on, every five months have 153 days. */
-        private static int marchMonth(int dayOfMarchYear) {
-            return (5 * dayOfMarchYear + 2) / 153;
-        }
-
-        private static int firstDayOfMarchMonth(int month) {
-            return (153 * month + 2) / 5;
+            int year = (dayOfCycle - leapDays) / 365;
+            int dayOfYear = dayOfCycle - (365 * year + year / 4 - year / 100);
+            int month = (5 * dayOfYear + 2) / 153;
+            int day = dayOfYear - (153 * month + 2) / 5 + 1;
+            int monthFrom2000 = 4800 * cycle + 12 * year + month + MARCH;
+            return (monthFrom2000 << BITS_OF_DAY) + day;
         }
     }
 }

@@ -6,6 +6,7 @@ public final class DiskTest {
         linesOfADayEnd(check);
         logJustFits(check);
         checkpointOfChangedAccounts(check);
+        checkpointOfAPaidAccount(check);
         nothingForBrokenTransactions(check);
         check.end();
     }
@@ -110,6 +111,25 @@ public final class DiskTest {
         isDue(check, "24 lines of none", none, 24, 24);
         none.run(1);
         isDue(check, "a checkpoint of none", none, 2, 24 + 1 + 2);
+    }
+
+    /** At date 2 the step of account 1 opens a new log: in it account 0 is changed by an order alone. */
+    private static void checkpointOfAPaidAccount(Check check) {
+        DayEndBank bank = new DayEndBank();
+        bank.open(0, 0, 0, 0);
+        bank.open(0, 0, 0, 0);
+        bank.pay(-1, 1, 100);
+        bank.order(1, 0, 5, 1);
+        bank.run(2);
+        isDue(check, "two day ends", bank, 20, 20);
+        bank.run(1);
+        isDue(check, "a checkpoint before the second step", bank, 4, 20 + 3 + 3 + 4);
+        for (int i = 0; i < 10; i++) {
+            bank.pay(-1, 1, 1);
+        }
+        isDue(check, "a full log", bank, 24, 50);
+        bank.pay(-1, 1, 1);
+        isDue(check, "a checkpoint of two", bank, 2, 50 + 3 + 2);
     }
 
     /** The accounts of a transaction without an end are not written in a later checkpoint. */
