@@ -629,9 +629,9 @@ public final class DayEndBank {
 
         /** The date at which an order of this day is due in the month of a date. */
         int dueDate(int day, int date) {
-            int monthAndDay = Calendar.monthAndDay(date);
-            int length = Calendar.lengthOfMonth(monthAndDay);
-            int dateBeforeFirst = date - Calendar.dayIn(monthAndDay);
+            int dateBeforeFirst = date - Calendar.dayIn(Calendar.monthAndDay(date));
+            // The 32nd date is in the next month, by as many dates as this one is shorter than 32.
+            int length = 32 - Calendar.dayIn(Calendar.monthAndDay(dateBeforeFirst + 32));
             int wanted = Math.min(day, length);
             for (int i = wanted; i <= length; i++) {
                 if (!isRest(dateBeforeFirst + i)) {
@@ -682,28 +682,7 @@ public final class DayEndBank {
         }
 
         static boolean isLastOfMonth(int date) {
-            int monthAndDay = monthAndDay(date);
-            return dayIn(monthAndDay) == lengthOfMonth(monthAndDay);
-        }
-
-        static int lengthOfMonth(int monthAndDay) {
-            int month = monthIn(monthAndDay);
-            switch (Math.floorMod(month, 12)) {
-                case 1:
-                    return isLeap(Math.floorDiv(month, 12)) ? 29 : 28;
-                case 3:
-                case 5:
-                case 8:
-                case 10:
-                    return 30;
-                default:
-                    return 31;
-            }
-        }
-
-        /** Years are counted from 2000 here, which changes nothing as 400 divides it. */
-        private static boolean isLeap(int year) {
-            return year % 4 == 0 && (year % 100 != 0 || year % 400 == 0);
+            return dayIn(monthAndDay(date + 1)) == 1;
         }
 
         /** The month, counted from January 2000 as 0. */
