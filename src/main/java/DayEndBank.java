@@ -655,7 +655,6 @@ public final class DayEndBank {
         private static final int BASIS_OF_MONTHS = 2;
         private static final int FIRST_OF_MARCH_2000 = 60;
         private static final int DAYS_OF_400_YEARS = 146097;
-        private static final int MARCH = 2;
         private static final int BITS_OF_DAY = 5;
 
         static boolean isBasis(int basis) {
@@ -685,7 +684,7 @@ public final class DayEndBank {
             return dayIn(monthAndDay(date + 1)) == 1;
         }
 
-        /** The month, counted from January 2000 as 0. */
+        /** The month, counted from March 2000 as 0: the two before it are below 0. */
         static int monthIn(int monthAndDay) {
             return monthAndDay >> BITS_OF_DAY;
         }
@@ -709,8 +708,8 @@ public final class DayEndBank {
             int dayOfYear = dayOfCycle - (365 * year + year / 4 - year / 100);
             int month = (5 * dayOfYear + 2) / 153;
             int day = dayOfYear - (153 * month + 2) / 5 + 1;
-            int monthFrom2000 = 4800 * cycle + 12 * year + month + MARCH;
-            return (monthFrom2000 << BITS_OF_DAY) + day;
+            int monthFromMarch2000 = 4800 * cycle + 12 * year + month;
+            return (monthFromMarch2000 << BITS_OF_DAY) + day;
         }
     }
 }

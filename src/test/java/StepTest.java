@@ -199,8 +199,12 @@ public final class StepTest {
     private static void ordersMoveNoCash(Check check) {
         DayEndBank bank = bankOf(2);
         bank.pay(-1, 0, 70);
-        bank.order(0, 1, 70, 1);
-        bank.run(3);
+        int[] days = {1, 15, 31};
+        for (int day : days) {
+            bank.order(0, 1, 20, day);
+        }
+        bank.run(31);
+        check.due("all were paid", bank.balance(1), 60);
         check.due("cash", bank.ledger(0, 0), 70);
         check.due("interest", bank.ledger(0, 1), 0);
         check.due("customers", bank.ledger(0, 2), 70);
