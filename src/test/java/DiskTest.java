@@ -17,6 +17,7 @@ public final class DiskTest {
         nothingOfBrokenTransactions(check);
         stoppedInTheMiddleOfATransaction(check);
         stoppedInTheMiddleOfACheckpoint(check);
+        stoppedCheckpointIsMadeAgainAsAWhole(check);
         check.end();
     }
 
@@ -228,8 +229,8 @@ public final class DiskTest {
     }
 
     /**
-     * '(open changes the new account; pay and settle the accounts that pay and are paid; hold and release
-     * the hold's account; order the paying account; rest .. none)'
+     * 'open changes the new account; pay and settle the accounts that pay and are paid; hold and release
+     * the hold's account; order the paying account; rest, begin and close change none'
      */
     private static void accountsThatEachCallChanges(Check check) {
         changes(check, "open", bank -> bank.open(0, 0, 0, 0), 1);
@@ -364,5 +365,46 @@ public final class DiskTest {
             check.due("pay again", bank.pay(0, 1, 1), 0);
             isDue(check, "pay", bank, isEmptied ? 4 : 3, 22 + fuse + 1 + (isEmptied ? 3 : 6));
         }
+    }
+
+    /**
+     * 'one write for each account that was changed by transactions in the log, and then one write that
+     * empties the log': as long as that last write was not made, this holds for the next transaction as
+     * it stands, whatever an earlier checkpoint has written, and whichever account was changed since.
+     */
+    private static void stoppedCheckpointIsMadeAgainAsAWhole(Check check) {
+        for (int fuse = 0; fuse < 3; fuse++) {
+            DayEndBank bank = bankWithTwoOfThreeInTheLog();
+            isDue(check, "a log of accounts 0 and 1", bank, 22, 50);
+            stopInThePayment(check, bank, fuse);
+            isDue(check, "a stop after " + fuse, bank, 22, 50 + fuse);
+            stopInThePayment(check, bank, 1);
+            isDue(check, "another stop after 1", bank, 22, 50 + fuse + 1);
+            payByCash(bank, 2, 1);
+            isDue(check, "a payment to account 2 that fits", bank, 24, 50 + fuse + 1 + 2);
+            check.due("pay(0, 1, 1)", bank.pay(0, 1, 1), 0);
+            isDue(check, "a checkpoint of three", bank, 3, 50 + fuse + 1 + 2 + 4 + 3);
+            check.due("balance(1)", bank.balance(1), 14);
+            check.due("balance(2)", bank.balance(2), 10);
+        }
+    }
+
+    /** Eight transactions stand in the log, none of them of account 2; three lines don't fit behind them. */
+    private static DayEndBank bankWithTwoOfThreeInTheLog() {
+        DayEndBank bank = new DayEndBank();
+        for (int i = 0; i < 3; i++) {
+            bank.open(0, 0, 1000, 0);
+        }
+        for (int i = 0; i < 13; i++) {
+            bank.pay(0, 1, 1);
+        }
+        bank.rest(37);
+        return bank;
+    }
+
+    private static void stopInThePayment(Check check, DayEndBank bank, int fuse) {
+        bank.fuse(fuse);
+        check.due("pay(0, 1, 1) with fuse " + fuse, bank.pay(0, 1, 1), DayEndBank.STOPPED);
+        check.due("restart() after fuse " + fuse, bank.restart(), 8);
     }
 }

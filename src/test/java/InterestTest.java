@@ -126,7 +126,7 @@ public final class InterestTest {
         isInterest(check, 0, 1, 9125001, 3);
     }
 
-    /** 'also where the accrual is below 0': a limit of 1000000 lets a debt be that large. */
+    /** The same below 0: a limit of 1000000 lets a debt, and so an accrual, be that large. */
     private static void halvesBelowZeroOfTheYear360(Check check, int basis) {
         isInterest(check, basis, 45, -39999, 0);
         isInterest(check, basis, 45, -40000, 0);

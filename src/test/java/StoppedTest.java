@@ -103,7 +103,7 @@ public final class StoppedTest {
         check.due("run(1)", bank.run(1), 1);
     }
 
-    /** 'STOPPED: The machine is stopped, or stopped in this call.' */
+    /** STOPPED: 'The machine is stopped, or stopped in this call.' */
     private static void stoppedByEachCall(Check check) {
         isStoppedBy(check, "open", bank -> bank.open(0, 0, 0, 0));
         isStoppedBy(check, "pay", bank -> bank.pay(-1, 0, 1));
